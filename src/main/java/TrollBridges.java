@@ -471,16 +471,12 @@ public final class TrollBridges {
             numbers = new int[Math.max(length, 0)];
         }
 
-        private boolean has(int place) {
-            return place >= 0 && place < numbers.length;
-        }
-
         int at(int place) {
-            return has(place) ? numbers[place] : 0;
+            return place >= 0 && place < numbers.length ? numbers[place] : 0;
         }
 
         void put(int place, int number) {
-            if (has(place)) {
+            if (place >= 0 && place < numbers.length) {
                 numbers[place] = number;
             }
         }
@@ -712,7 +708,7 @@ public final class TrollBridges {
         int sumOfGoats(int what) {
             int sum = 0;
             for (int goat = 0; goat < of(GOATS); goat++) {
-                sum += ofGoat(goat, what);
+                sum += cells.at(FIRST_GOAT + goat * PER_GOAT + what);
             }
             return sum;
         }
@@ -1102,11 +1098,12 @@ public final class TrollBridges {
             if (across == NONE) {
                 return verdict.refused(Refusal.LEADS_ELSEWHERE, land);
             }
-            int lacking = world.tollDue(bridge) - world.ofGoat(goat, World.PURSE);
+            int toll = world.tollDue(bridge);
+            int lacking = toll - world.ofGoat(goat, World.PURSE);
             if (lacking > 0) {
                 return verdict.refused(Refusal.TOO_FEW_COINS, lacking);
             }
-            payToll(goat, bridge);
+            payToll(goat, bridge, toll);
             int hours = world.hoursOver(bridge);
             addToGoat(goat, World.WALKED, hours);
             addToGoat(goat, World.CROSSINGS, 1);
@@ -1115,8 +1112,7 @@ public final class TrollBridges {
             return verdict.done(hours);
         }
 
-        private void payToll(int goat, int bridge) {
-            int toll = world.tollDue(bridge);
+        private void payToll(int goat, int bridge, int toll) {
             addToGoat(goat, World.PURSE, -toll);
             if (world.isDisputed(bridge)) {
                 addToBridge(bridge, World.PAID + goat, toll);
@@ -1492,26 +1488,24 @@ public final class TrollBridges {
                     errorAt = Math.max(errorAt, index);
                     return false;
                 }
+                int width = wanted == NUMBER && isDigit(text.signAt(index + 1)) ? 2 : 1;
                 if (wanted == PLUS_OR_MINUS || isDigit(wanted)) {
-                    numbers.put(place, valueAt(wanted, index));
+                    numbers.put(place, valueAt(index, width));
                     place++;
                 }
-                index += widthAt(wanted, index);
+                index += width;
             }
             at = index;
             return true;
         }
 
-        private int widthAt(char wanted, int index) {
-            return wanted == NUMBER && isDigit(text.signAt(index + 1)) ? 2 : 1;
-        }
-
-        private int valueAt(char wanted, int index) {
-            if (wanted == PLUS_OR_MINUS) {
-                return text.signAt(index) == '+' ? 1 : 0;
+        /** The number of one or two digits at an index, or 1 for a plus and 0 for a minus. */
+        private int valueAt(int index, int width) {
+            char sign = text.signAt(index);
+            if (!isDigit(sign)) {
+                return sign == '+' ? 1 : 0;
             }
-            int digit = text.signAt(index) - '0';
-            return widthAt(wanted, index) == 2 ? 10 * digit + text.signAt(index + 1) - '0' : digit;
+            return width == 2 ? 10 * (sign - '0') + text.signAt(index + 1) - '0' : sign - '0';
         }
 
         private static boolean fits(char wanted, char sign) {
