@@ -1320,11 +1320,11 @@ public final class TrollBridges {
             return true;
         }
 
-        /** The land on which a land hangs, by the ways that were reached by lands last. */
+        /**
+         * The land on which a land hangs, by the ways that were reached by lands last. As each bridge takes an hour
+         * at least, no land is found for the one from which they go, nor for one to which no way leads.
+         */
         int hanger(int land) {
-            if (reached.at(land) == 0 || reached.at(land) == FAR) {
-                return NONE;
-            }
             for (int lower = 0; lower < LANDS; lower++) {
                 if (leadsFastest(lower, land)) {
                     return lower;
@@ -1382,11 +1382,9 @@ public final class TrollBridges {
         }
 
         void stepBack(World world) {
-            if (count > 0) {
-                prepared = prepared == 0 ? MOST : prepared - 1;
-                count--;
-                takeBack(world);
-            }
+            prepared = prepared == 0 ? MOST : prepared - 1;
+            count = Math.max(count - 1, 0);
+            takeBack(world);
         }
 
         void forget() {
@@ -1411,8 +1409,7 @@ public final class TrollBridges {
         static final int PASS = 12;
         private static final int KINDS = 13;
 
-        // the signs of a form that stand for others
-        private static final char DIGIT = '0';
+        // the signs of a form that stand for others; another digit stands for one digit
         private static final char NUMBER = '9';
         private static final char PLUS_OR_MINUS = '+';
 
@@ -1452,7 +1449,6 @@ public final class TrollBridges {
         boolean parse() {
             count = 0;
             at = 0;
-            errorAt = 0;
             while (count < MOST && parseCommand()) {
                 count++;
                 if (at == text.length()) {

@@ -8,6 +8,7 @@ public final class AccountsUndoTest {
 
     public static void main(String[] args) {
         promise40Account();
+        promise40AccountOfAll();
         promise41MeanToll();
         promise42CountedShare();
         promise43UndoEachChange();
@@ -51,6 +52,46 @@ public final class AccountsUndoTest {
         Check.same("account: a fog lifted", 1, x.account(7));
         Check.badNumber("account: what -1", () -> x.account(-1));
         Check.badNumber("account: what 15", () -> x.account(15));
+    }
+
+    private static void promise40AccountOfAll() {
+        TrollBridges x = new TrollBridges();
+        for (int bridge = 0; bridge < 10; bridge++) {
+            x.bridge(bridge % 6, (bridge + 1) % 6, 1 + bridge % 9, bridge);
+            x.fog(bridge, 48);
+        }
+        for (int troll = 0; troll < 6; troll++) {
+            x.troll();
+            x.post(troll, 9 - troll);
+            x.riddle(troll, 9, 48);
+        }
+        for (int goat = 0; goat < 5; goat++) {
+            x.goat((9 - goat) % 6, 99);
+            x.dispute(goat, 9 - goat);
+            x.cross(goat, 9 - goat);
+        }
+        x.strike(4, true);
+        long[] want = {10, 6, 5, 0, 1, 5, 6, 10, 495, 460, 0, 35, 5, 0, 8};
+        for (int what = 0; what < want.length; what++) {
+            Check.same("account of all " + what, want[what], x.account(what));
+        }
+        for (int goat = 0; goat < 5; goat++) {
+            Check.same("account of all: a goat in chests", 9 - goat, x.goatOf(goat, 5));
+            Check.same("account of all: the chest", 9 - goat, x.bridgeOf(9 - goat, 7));
+        }
+        Check.same("account of all: counted", 6, x.counted());
+        Check.same("account of all: counted again", 6, x.countedAgain());
+        Check.same("account of all: tolls", 45, x.sum(true));
+        Check.same("account of all: tolls without fog", 0, x.sum(false));
+        Check.same("account of all: mean", 4.5, x.meanToll());
+        Check.same("account of all: share", 0.6f, x.countedShare());
+        Check.same("account of all: next", 48, x.next());
+        Check.yes("account of all: well", x.isWell());
+        String before = Check.dump(x);
+        x.save();
+        Check.same("account of all: all riddles expire", 6, x.pass(48));
+        Check.same("account of all: all back", 10, x.restore());
+        Check.same("account of all: as before", before, Check.dump(x));
     }
 
     private static void promise41MeanToll() {

@@ -9,6 +9,7 @@ public final class TollsWaysTest {
         promises20And21Cheapest();
         promises22And23Fastest();
         promises20To24NoWay();
+        promises20To24InAnyOrder();
         promise24Hangs();
         promise25Sum();
         promises26And27Counted();
@@ -105,6 +106,22 @@ public final class TollsWaysTest {
         backward.post(0, 4);
         checkCheapest(backward, 0, 5, 5);
         checkCheapest(backward, 1, 5, 0);
+    }
+
+    /** Each of the ways asked after one of the other measure. */
+    private static void promises20To24InAnyOrder() {
+        TrollBridges x = waysOfThree();
+        Check.same("cheapestAgain: asked first", 7, x.cheapestAgain(0, 3));
+        Check.same("fastestAgain: after it", 2, x.fastestAgain(0, 3));
+        Check.same("cheapest: after it", 7, x.cheapest(0, 3));
+        Check.same("hangs: after it", 0, x.hangs(0, 3));
+        x.riddle(0, 4, 2);
+        Check.same("cheapestAgain: after it", 7, x.cheapestAgain(0, 3));
+        Check.same("fastest: after it", 5, x.fastest(0, 3));
+        Check.same("cheapest: after that", 7, x.cheapest(0, 3));
+        Check.same("show: after that", 9, x.show(0));
+        x.fog(2, 2);
+        Check.same("fastestAgain: after a change", 6, x.fastestAgain(0, 3));
     }
 
     private static void checkCheapest(TrollBridges x, int from, int to, int want) {
@@ -271,6 +288,10 @@ public final class TollsWaysTest {
         checkRichest("as many coins, another bridge", x, 3, 5, 2, 0, 1, 4);
         x.leave(3);
         checkRichest("as many coins, none crossed", x, 5, 3, 2, 0, 1, 4);
+        x.price(0, 1);
+        x.post(4, 0);
+        x.cross(0, 0);
+        checkRichest("one coin more, and one less", x, 5, 3, 4, 2, 0, 1);
         Check.noElement("richest: place -1", () -> x.richest(-1));
         Check.noElement("richest: place 6", () -> x.richest(6));
     }
@@ -300,8 +321,11 @@ public final class TollsWaysTest {
         checkTired("as many hours, more crossings", x, 0, 2, 1, 3);
         x.cross(3, 1);
         checkTired("as many hours, more coins", x, 3, 0, 2, 1);
+        x.goat(5, 8);
+        x.strike(1, true);
+        checkTired("one coin more", x, 3, 0, 2, 4, 1);
         Check.noElement("tired: place -1", () -> x.tired(-1));
-        Check.noElement("tired: place 4", () -> x.tired(4));
+        Check.noElement("tired: place 4", () -> x.tired(5));
     }
 
     private static void checkTired(String what, TrollBridges x, int... want) {
