@@ -574,6 +574,7 @@ public final class TrollBridges {
         private static final int FIRST_GOAT = FIRST_TROLL + MOST_TROLLS * PER_TROLL;
         static final int CELLS = FIRST_GOAT + MOST_GOATS * PER_GOAT;
 
+        /** The innermost functions ask it without a function between, so that calls stay seven deep. */
         private final Row cells = new Row(CELLS);
 
         void storeIn(Row row, int place) {
@@ -642,7 +643,7 @@ public final class TrollBridges {
 
         /** For how many hours the riddle of a troll holds yet, 0 if none does. */
         int riddleHours(int troll) {
-            return Math.max(0, ofTroll(troll, EXPIRES) - of(HOUR));
+            return Math.max(0, cells.at(FIRST_TROLL + troll * PER_TROLL + EXPIRES) - cells.at(HOUR));
         }
 
         /** The difficulty of the riddle of a troll, 0 if none holds. */
@@ -707,7 +708,7 @@ public final class TrollBridges {
 
         int sumOfGoats(int what) {
             int sum = 0;
-            for (int goat = 0; goat < of(GOATS); goat++) {
+            for (int goat = 0; goat < cells.at(GOATS); goat++) {
                 sum += cells.at(FIRST_GOAT + goat * PER_GOAT + what);
             }
             return sum;
