@@ -144,7 +144,8 @@ public final class BoundaryTextsTest {
 
     private static void readNoneIfTheLastIsRefused() {
         String[] texts = {"bridge 0 1 2 3;post 2 3;cross 0 1;work 2;pass 9;leave 0",
-            "settle 0-;leave 0;fog 2 0;leave 2", "settle 0+;goat 0 1;goat 0 1;goat 0 1", "riddle 1 2 3;goat 0 9;strike 3;dispute 3 1;fog 3 1"};
+            "settle 0-;leave 0;fog 2 0;leave 2", "settle 0+;goat 0 1;goat 0 1;goat 0 1",
+            "riddle 1 2 3;goat 0 9;strike 3;dispute 3 1;fog 3 1"};
         for (String text : texts) {
             TrollBridges x = Scenes.disputed();
             Check.type(x, text);
