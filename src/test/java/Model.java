@@ -9,9 +9,10 @@ import java.util.function.IntSupplier;
 import java.util.function.ToIntFunction;
 import java.util.regex.Matcher;
 import java.util.regex.Pattern;
+import java.util.stream.IntStream;
 
 /**
- * The document told once more, as plainly as the Java library allows and without a look at the class: each method
+ * The document told once more, as plainly as the Java library allows and by other means than the class: each method
  * has the name, the parameters and the answers that the face asks for, so that the two can be compared.
  */
 final class Model {
@@ -36,7 +37,7 @@ final class Model {
         }
 
         int chest() {
-            return java.util.stream.IntStream.of(paid).sum();
+            return IntStream.of(paid).sum();
         }
     }
 
