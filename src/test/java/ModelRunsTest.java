@@ -41,6 +41,7 @@ public final class ModelRunsTest {
     /** How many lands are used: where they are few, bridges meet. */
     private int lands = 0;
     private boolean isWrong = false;
+    private boolean isRefused = false;
 
     private ModelRunsTest(int seed) {
         random = new Random(seed);
@@ -74,13 +75,16 @@ public final class ModelRunsTest {
             kinds.addAll(Collections.nCopies(Integer.parseInt(parts[0]), parts[1]));
         }
         lands = 2 + random.nextInt(5);
-        // a text is typed and read by up to 61 calls
-        while (calls.size() < CALLS - MOST_TYPED && !isWrong) {
+        // a text is typed and read by up to 61 calls, and one may ask why it was refused
+        while (calls.size() <= CALLS - MOST_TYPED - 2 && !isWrong) {
             String[] parts = (kinds.get(random.nextInt(kinds.size())) + " ").split(" ", -1);
             if (parts[0].equals("TEXT")) {
                 typeAndRead(answers);
             } else {
                 call(parts[0], arguments(parts[0], parts[1]), answers);
+            }
+            if (isRefused && !isWrong) {
+                call("refusal", arguments("refusal", "yy"), answers);
             }
         }
         Check.no(what + " goes wrong: " + String.join(" ", calls), isWrong);
@@ -107,7 +111,8 @@ public final class ModelRunsTest {
             calls.add("but due is " + told);
         }
         answers.merge(name + (got.startsWith("throws") ? " " + got : ""), 1, Integer::sum);
-        if (got.equals("throws UnsupportedOperationException")) {
+        isRefused = got.equals("throws UnsupportedOperationException");
+        if (isRefused) {
             answers.merge(name + " refused for " + model.refusal(false, false), 1, Integer::sum);
         }
     }
